@@ -8,7 +8,10 @@ public final class IndexTest {
         withPrint(checks);
         likeness(checks);
         pairs(checks);
+        aLikenessOf59(checks);
+        fullAnswers(checks);
         markAboveZero(checks);
+        aMarkOfOne(checks);
         closedMarksRule(checks);
         whatIsNotThere(checks);
         Rows.end(checks);
@@ -161,6 +164,64 @@ public final class IndexTest {
         for (int place = 0; place < due.length && place < x.pairs(0); place++) {
             checks.is("pairAt " + place, x.pairAt(0, place), due[place]);
         }
+    }
+
+    private static SheetVault withTasks(int tasks) {
+        SheetVault x = Rows.withSheets(1);
+        x.setQuota(0, 1000);
+        for (int task = 0; task < tasks; task++) {
+            x.setWords(0, 0, task, 10, 1);
+        }
+        return x;
+    }
+
+    private static void aLikenessOf59(Checks checks) {
+        SheetVault x = withTasks(3);
+        x.open(0, 0);
+        Rows.sayAll(x, 0, 0, 0, 1, 2, 3, 4, 5, 6, 7, 8, 9, 10, 11, 12);
+        Rows.sayAll(x, 0, 0, 1, 13, 14, 15, 16, 17, 18, 19, 20, 21, 22, 23, 24);
+        Rows.sayAll(x, 0, 0, 2, 25, 26, 27, 28);
+        x.hand(0, 0);
+        x.open(1, 0);
+        Rows.sayAll(x, 1, 0, 0, 1, 2, 3, 4, 5, 6, 7, 8, 9, 10, 11, 12);
+        Rows.sayAll(x, 1, 0, 1, 13, 14, 15, 16, 17, 24, 23, 22, 21, 20, 19, 18);
+        Rows.sayAll(x, 1, 0, 2, 31, 30, 29, 28);
+        x.hand(1, 0);
+        // 10 of the first task and 3 of the second, 13 of 22, are in both.
+        checks.is("fingerprints", x.fingerprints(0, 0), 22);
+        checks.is("fingerprints", x.fingerprints(1, 0), 22);
+        checks.is("likeness", x.likeness(0, 0, 1), 59);
+        checks.is("pairs", x.pairs(0), 0);
+        checks.is("pairs anew", x.pairsAnew(0), 0);
+    }
+
+    private static void fullAnswers(Checks checks) {
+        SheetVault x = withTasks(5);
+        for (int pupil = 0; pupil < 2; pupil++) {
+            x.open(pupil, 0);
+            for (int task = 0; task < 5; task++) {
+                for (int place = 0; place < 12; place++) {
+                    x.say(pupil, 0, task, 1 + (place * (task + 1) + task) % 31);
+                }
+            }
+            checks.is("hand", x.hand(pupil, 0), 20);
+            checks.is("fingerprints of all words", x.fingerprints(pupil, 0), 50);
+        }
+        checks.is("likeness", x.likeness(0, 0, 1), 100);
+        checks.is("pairs", x.pairs(0), 1);
+        checks.is("pairs anew", x.pairsAnew(0), 1);
+        checks.is("the last print", x.withPrint(0, Rows.print(19, 24, 29)), 3);
+        checks.is("the highest print", x.withPrint(0, Rows.print(30, 4, 9)), 3);
+    }
+
+    private static void aMarkOfOne(Checks checks) {
+        SheetVault x = Rows.withSheets(1);
+        x.setWords(0, 0, 0, 1, 1);
+        checks.is("hand", Rows.handWords(x, 0, 0, 0, 1, 2, 3, 4), 1);
+        checks.is("hand", Rows.handWords(x, 1, 0, 0, 1, 2, 3, 4), 1);
+        checks.is("a mark of 1", x.fingerprints(0, 0), 2);
+        checks.is("pairs", x.pairs(0), 1);
+        checks.is("pairs anew", x.pairsAnew(0), 1);
     }
 
     private static void markAboveZero(Checks checks) {

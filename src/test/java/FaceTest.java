@@ -1,0 +1,94 @@
+import java.lang.reflect.Constructor;
+import java.lang.reflect.Field;
+import java.lang.reflect.Method;
+import java.lang.reflect.Modifier;
+import java.util.Set;
+import java.util.TreeSet;
+
+/** The public face: every constant, constructor and method of the document, and nothing else that can be seen. */
+public final class FaceTest {
+    /** Name, how many ints it takes, and the exceptions: b bounds, a argument, s state. */
+    private static final String[] METHODS = {
+        "addSheet 0 s", "setNumber 6 bas", "setChoice 5 bas", "setWords 5 bas", "drop 3 bs", "adopt 3 b", "fold 2 bs",
+        "sheets 0 -", "versions 1 b", "head 2 b", "parent 2 b", "kindOf 3 b", "toldIn 3 b", "points 2 b",
+        "mendNumber 5 bas", "mendChoice 4 bas", "mendWords 4 bas", "open 2 bs", "say 4 bas", "hand 2 bs",
+        "close 2 bs", "answer 2 b", "mark 2 b", "due 2 b", "told 2 b", "average 2 b", "fingerprints 2 b",
+        "withPrint 2 b", "likeness 3 b", "pairs 1 b", "pairAt 2 b", "pairsAnew 1 b", "setQuota 2 ba", "used 1 b",
+        "usedAnew 1 b",
+    };
+    private static final String[] CONSTANTS = {
+        "NONE -1", "NUMBER 0", "CHOICE 1", "WORDS 2", "NO_ANSWER 0", "OPEN 1", "HANDED 2",
+    };
+
+    public static void main(String[] args) throws Exception {
+        Checks checks = new Checks();
+        methods(checks);
+        constants(checks);
+        int type = SheetVault.class.getModifiers();
+        checks.holds("the class is public and final", Modifier.isPublic(type) && Modifier.isFinal(type));
+        Constructor<?>[] constructors = SheetVault.class.getDeclaredConstructors();
+        boolean one = constructors.length == 1 && constructors[0].getParameterCount() == 0;
+        checks.holds("one public constructor", one && Modifier.isPublic(constructors[0].getModifiers()));
+        for (Class<?> inside : SheetVault.class.getDeclaredClasses()) {
+            int its = inside.getModifiers();
+            boolean hidden = !Modifier.isPublic(its) && !Modifier.isProtected(its);
+            checks.holds("a class inside is hidden and static", hidden && Modifier.isStatic(its));
+        }
+        Rows.end(checks);
+    }
+
+    private static void methods(Checks checks) {
+        Set<String> due = new TreeSet<>(Set.of(METHODS));
+        Set<String> seen = new TreeSet<>();
+        Set<String> names = new TreeSet<>();
+        for (String method : METHODS) {
+            names.add(method.substring(0, method.indexOf(' ')));
+        }
+        for (Method method : SheetVault.class.getDeclaredMethods()) {
+            if (Modifier.isPrivate(method.getModifiers())) {
+                checks.holds("a hidden method has a public name: " + method, !names.contains(method.getName()));
+                continue;
+            }
+            checks.is("modifiers of " + method, method.getModifiers(), Modifier.PUBLIC);
+            checks.holds("it answers an int: " + method, method.getReturnType() == int.class);
+            seen.add(faceOf(checks, method));
+        }
+        checks.holds("the public methods are " + seen + ", due are " + due, seen.equals(due));
+        for (Class<?> inside : SheetVault.class.getDeclaredClasses()) {
+            for (Method method : inside.getDeclaredMethods()) {
+                checks.holds("a method inside has a public name: " + method, !names.contains(method.getName()));
+            }
+        }
+    }
+
+    private static String faceOf(Checks checks, Method method) {
+        for (Class<?> type : method.getParameterTypes()) {
+            checks.holds("it takes ints: " + method, type == int.class);
+        }
+        StringBuilder thrown = new StringBuilder();
+        for (Class<?> type : method.getExceptionTypes()) {
+            thrown.append(type == IndexOutOfBoundsException.class ? "b" : "");
+            thrown.append(type == IllegalArgumentException.class ? "a" : "");
+            thrown.append(type == IllegalStateException.class ? "s" : "");
+        }
+        String exceptions = thrown.length() == 0 ? "-" : thrown.toString();
+        return method.getName() + " " + method.getParameterCount() + " " + exceptions;
+    }
+
+    private static void constants(Checks checks) throws Exception {
+        Set<String> due = new TreeSet<>(Set.of(CONSTANTS));
+        Set<String> seen = new TreeSet<>();
+        for (Field field : SheetVault.class.getDeclaredFields()) {
+            int its = field.getModifiers();
+            if (Modifier.isStatic(its)) {
+                checks.holds("a static field is final: " + field, Modifier.isFinal(its));
+            }
+            if (!Modifier.isPrivate(its)) {
+                checks.is("modifiers of " + field, its, Modifier.PUBLIC | Modifier.STATIC | Modifier.FINAL);
+                checks.holds("a constant is an int: " + field, field.getType() == int.class);
+                seen.add(field.getName() + " " + field.getInt(null));
+            }
+        }
+        checks.holds("the constants are " + seen + ", due are " + due, seen.equals(due));
+    }
+}
