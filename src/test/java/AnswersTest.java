@@ -18,7 +18,7 @@ public final class AnswersTest {
     }
 
     private static void open(Checks checks) {
-        SheetVault x = Rows.withSheets(2);
+        Vault x = Rows.withSheets(2);
         checks.is("answer ahead of open", x.answer(0, 0), SheetVault.NO_ANSWER);
         checks.is("due ahead of open", x.due(0, 0), SheetVault.NONE);
         checks.is("mark ahead of open", x.mark(0, 0), SheetVault.NONE);
@@ -39,7 +39,7 @@ public final class AnswersTest {
         checks.is("the other sheet is not closed", x.open(1, 1), 0);
         checks.is("the other class is not closed", x.open(4, 0), 0);
 
-        SheetVault y = Rows.withSheets(1);
+        Vault y = Rows.withSheets(1);
         y.setNumber(0, 0, 0, 5, 1, 0);
         y.open(0, 0);
         y.setChoice(0, 0, 0, 9, 1);
@@ -49,7 +49,7 @@ public final class AnswersTest {
     }
 
     private static void sayNumber(Checks checks) {
-        SheetVault x = Rows.withSheets(1);
+        Vault x = Rows.withSheets(1);
         x.setNumber(0, 0, 4, 5, 0, 3);
         x.open(0, 0);
         checks.is("due with nothing said", x.due(0, 0), 0);
@@ -69,7 +69,7 @@ public final class AnswersTest {
     }
 
     private static void sayChoice(Checks checks) {
-        SheetVault x = Rows.withSheets(1);
+        Vault x = Rows.withSheets(1);
         x.setChoice(0, 0, 0, 5, 0b10001);
         x.setChoice(0, 0, 1, 4, 0);
         x.open(0, 0);
@@ -89,7 +89,7 @@ public final class AnswersTest {
     }
 
     private static void sayWords(Checks checks) {
-        SheetVault x = Rows.withSheets(1);
+        Vault x = Rows.withSheets(1);
         x.setWords(0, 0, 0, 10, Rows.row(31, 1));
         x.setNumber(0, 0, 1, 5, 0, 0);
         x.open(0, 0);
@@ -104,7 +104,7 @@ public final class AnswersTest {
     }
 
     private static void wrongSays(Checks checks) {
-        SheetVault x = Rows.withSheets(1);
+        Vault x = Rows.withSheets(1);
         x.setNumber(0, 0, 0, 5, 1, 0);
         x.setChoice(0, 0, 1, 5, 1);
         x.setWords(0, 0, 2, 5, 1);
@@ -148,7 +148,7 @@ public final class AnswersTest {
     }
 
     private static void quotaOfSays(Checks checks) {
-        SheetVault x = Rows.withSheets(1);
+        Vault x = Rows.withSheets(1);
         x.setNumber(0, 0, 0, 5, 1, 0);
         x.setChoice(0, 0, 1, 5, 1);
         x.setWords(0, 0, 2, 5, 1);
@@ -173,7 +173,7 @@ public final class AnswersTest {
     }
 
     private static void hand(Checks checks) {
-        SheetVault x = Rows.withSheets(1);
+        Vault x = Rows.withSheets(1);
         checks.state(x, "hand without answer", v -> v.hand(0, 0));
         x.setNumber(0, 0, 0, 5, 1, 0);
         x.open(0, 0);
@@ -193,7 +193,7 @@ public final class AnswersTest {
     }
 
     private static void close(Checks checks) {
-        SheetVault x = Rows.withSheets(2);
+        Vault x = Rows.withSheets(2);
         x.setWords(0, 0, 0, 5, 1);
         x.adopt(1, 0, 1);
         Rows.handWords(x, 0, 0, 0, 1);
@@ -224,7 +224,7 @@ public final class AnswersTest {
     }
 
     private static void whatIsNotThere(Checks checks) {
-        SheetVault x = Rows.withSheets(1);
+        Vault x = Rows.withSheets(1);
         int[] pupils = {-1, 12, Rows.MOST, Rows.LEAST};
         for (int pupil : pupils) {
             checks.index(x, "open", v -> v.open(pupil, 0));
@@ -247,7 +247,7 @@ public final class AnswersTest {
     }
 
     private static void choiceMarks(Checks checks) {
-        SheetVault x = Rows.withSheets(1);
+        Vault x = Rows.withSheets(1);
         x.setChoice(0, 0, 0, 10, 0b00111);
         x.open(0, 0);
         int[] signs = {0, 1, 2, 3, 4, 0, 1};
@@ -260,7 +260,7 @@ public final class AnswersTest {
     }
 
     private static void wordMarks(Checks checks) {
-        SheetVault x = Rows.withSheets(1);
+        Vault x = Rows.withSheets(1);
         x.setWords(0, 0, 0, 10, Rows.row(1, 2, 3, 1, 2, 3));
         checks.is("all words", Rows.handWords(x, 0, 0, 0, 9, 1, 2, 9, 3, 1, 2, 3), 10);
         checks.is("in another order", Rows.handWords(x, 1, 0, 0, 3, 2, 1, 3, 2, 1), 5);
@@ -278,7 +278,7 @@ public final class AnswersTest {
     }
 
     private static void average(Checks checks) {
-        SheetVault x = Rows.withSheets(1);
+        Vault x = Rows.withSheets(1);
         x.setNumber(1, 0, 0, 10, 0, 0);
         x.setNumber(1, 0, 1, 1, 0, 0);
         checks.is("average of none", x.average(1, 0), SheetVault.NONE);

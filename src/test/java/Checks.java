@@ -1,12 +1,10 @@
 /** Counts the checks of one test and tells those that fail. */
 final class Checks {
-    /** A call of the face. */
-    interface Call {
-        int on(SheetVault vault);
-    }
-
     int passed = 0;
     int failed = 0;
+    private Vault drawn = null;
+    private int drawnChanges = 0;
+    private String picture = "";
 
     void is(String what, int got, int want) {
         count(got == want, what + " answered " + got + ", due is " + want);
@@ -17,22 +15,23 @@ final class Checks {
     }
 
     /** An IndexOutOfBoundsException is due, and nothing changes. */
-    void index(SheetVault vault, String what, Call call) {
-        fails(vault, what, call, IndexOutOfBoundsException.class);
+    void index(Vault vault, String what, Vault.Call call) {
+        fails(vault, what, IndexOutOfBoundsException.class, call);
     }
 
     /** An IllegalArgumentException is due, and nothing changes. */
-    void argument(SheetVault vault, String what, Call call) {
-        fails(vault, what, call, IllegalArgumentException.class);
+    void argument(Vault vault, String what, Vault.Call call) {
+        fails(vault, what, IllegalArgumentException.class, call);
     }
 
     /** An IllegalStateException is due, and nothing changes. */
-    void state(SheetVault vault, String what, Call call) {
-        fails(vault, what, call, IllegalStateException.class);
+    void state(Vault vault, String what, Vault.Call call) {
+        fails(vault, what, IllegalStateException.class, call);
     }
 
-    private void fails(SheetVault vault, String what, Call call, Class<?> due) {
-        String before = Picture.of(vault);
+    /** This exception is due, and nothing changes. */
+    void fails(Vault vault, String what, Class<?> due, Vault.Call call) {
+        String before = pictureOf(vault);
         Class<?> thrown = null;
         try {
             call.on(vault);
@@ -40,7 +39,17 @@ final class Checks {
             thrown = e.getClass();
         }
         count(thrown == due, what + " threw " + thrown + ", due is " + due);
-        count(before.equals(Picture.of(vault)), what + " threw, but changed something");
+        count(thrown == null || before.equals(Picture.after(vault, call)), what + " threw, but changed something");
+    }
+
+    /** The picture is kept for the next refused call, as long as nothing changes. */
+    private String pictureOf(Vault vault) {
+        if (drawn != vault || drawnChanges != vault.changeCount()) {
+            drawn = vault;
+            drawnChanges = vault.changeCount();
+            picture = Picture.of(vault);
+        }
+        return picture;
     }
 
     private void count(boolean good, String message) {

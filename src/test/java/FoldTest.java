@@ -14,7 +14,7 @@ public final class FoldTest {
     }
 
     private static void whatCannotBeFolded(Checks checks) {
-        SheetVault x = Rows.withSheets(1);
+        Vault x = Rows.withSheets(1);
         checks.index(x, "fold of no sheet", v -> v.fold(1, 0));
         checks.index(x, "fold of no sheet", v -> v.fold(-1, 0));
         checks.index(x, "fold of no version", v -> v.fold(0, 1));
@@ -33,7 +33,7 @@ public final class FoldTest {
         x.adopt(1, 0, 4);
         checks.state(x, "fold of the head of a class that has not made it", v -> v.fold(0, 2));
 
-        SheetVault y = Rows.withSheets(1);
+        Vault y = Rows.withSheets(1);
         y.setChoice(0, 0, 0, 1, 1);
         y.open(0, 0);
         y.adopt(0, 0, 0);
@@ -48,7 +48,7 @@ public final class FoldTest {
         y.close(1, 0);
         checks.state(y, "fold with an answer handed in, closed", v -> v.fold(0, 2));
 
-        SheetVault z = Rows.withSheets(1);
+        Vault z = Rows.withSheets(1);
         z.setChoice(0, 0, 0, 1, 1);
         z.adopt(1, 0, 1);
         z.setChoice(0, 0, 1, 1, 1);
@@ -60,7 +60,7 @@ public final class FoldTest {
     }
 
     private static void withoutChild(Checks checks) {
-        SheetVault x = Rows.withSheets(1);
+        Vault x = Rows.withSheets(1);
         x.setWords(0, 0, 0, 1, Rows.row(1, 2, 3, 4));
         x.adopt(0, 0, 0);
         checks.is("fold without child", x.fold(0, 1), 4);
@@ -69,7 +69,7 @@ public final class FoldTest {
     }
 
     private static void withChild(Checks checks) {
-        SheetVault x = Rows.withSheets(1);
+        Vault x = Rows.withSheets(1);
         x.setNumber(0, 0, 0, 1, 5, 0);
         x.setWords(0, 0, 1, 2, Rows.row(1, 2, 3));
         x.setChoice(0, 0, 2, 3, 1);
@@ -90,7 +90,7 @@ public final class FoldTest {
     }
 
     private static void aDropIsInherited(Checks checks) {
-        SheetVault x = Rows.withSheets(1);
+        Vault x = Rows.withSheets(1);
         x.setNumber(0, 0, 0, 4, 5, 0);
         x.drop(0, 0, 0);
         x.setChoice(0, 0, 1, 3, 1);
@@ -103,14 +103,14 @@ public final class FoldTest {
     }
 
     private static void ownEntriesStay(Checks checks) {
-        SheetVault x = Rows.withSheets(1);
+        Vault x = Rows.withSheets(1);
         x.setNumber(0, 0, 0, 4, 5, 0);
         x.setWords(0, 0, 0, 6, 1);
         checks.is("fold of what is set anew", x.fold(0, 1), 2);
         checks.is("kind", x.kindOf(0, 2, 0), SheetVault.WORDS);
         checks.is("points", x.points(0, 2), 6);
 
-        SheetVault y = Rows.withSheets(1);
+        Vault y = Rows.withSheets(1);
         y.setNumber(0, 0, 0, 4, 5, 0);
         y.adopt(1, 0, 1);
         y.setWords(1, 0, 0, 6, 1);
@@ -123,7 +123,7 @@ public final class FoldTest {
     }
 
     private static void quotaOfTheHeir(Checks checks) {
-        SheetVault x = Rows.withSheets(1);
+        Vault x = Rows.withSheets(1);
         x.setWords(0, 0, 0, 4, Rows.row(1, 2, 3));
         x.adopt(1, 0, 1);
         x.setChoice(1, 0, 1, 3, 1);
@@ -137,7 +137,7 @@ public final class FoldTest {
         checks.is("used by the heir", x.used(1), 4);
         checks.is("used by the heir anew", x.usedAnew(1), 4);
 
-        SheetVault y = Rows.withSheets(1);
+        Vault y = Rows.withSheets(1);
         y.setWords(0, 0, 0, 4, Rows.row(1, 2, 3));
         y.adopt(1, 0, 1);
         y.setChoice(1, 0, 0, 3, 1);
@@ -145,7 +145,7 @@ public final class FoldTest {
         y.setQuota(1, 0);
         checks.is("fold that gives the heir nothing, above the quota", y.fold(0, 1), 3);
 
-        SheetVault z = Rows.withSheets(1);
+        Vault z = Rows.withSheets(1);
         z.setWords(0, 0, 0, 4, Rows.row(1, 2, 3));
         z.setChoice(0, 0, 1, 3, 1);
         z.setQuota(0, 0);
@@ -154,7 +154,7 @@ public final class FoldTest {
     }
 
     private static void answersKeepTheirTasks(Checks checks) {
-        SheetVault x = Rows.withSheets(1);
+        Vault x = Rows.withSheets(1);
         x.setNumber(0, 0, 0, 4, 5, 0);
         x.setChoice(0, 0, 1, 3, 1);
         x.open(0, 0);
@@ -166,7 +166,7 @@ public final class FoldTest {
     }
 
     private static void mendsReachInheritedEntries(Checks checks) {
-        SheetVault x = Rows.withSheets(1);
+        Vault x = Rows.withSheets(1);
         x.setNumber(0, 0, 0, 4, 5, 0);
         x.setChoice(0, 0, 1, 3, 1);
         x.setChoice(0, 0, 2, 3, 1);

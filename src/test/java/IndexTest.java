@@ -17,8 +17,8 @@ public final class IndexTest {
         Rows.end(checks);
     }
 
-    private static SheetVault withRule(int words) {
-        SheetVault x = Rows.withSheets(1);
+    private static Vault withRule(int words) {
+        Vault x = Rows.withSheets(1);
         x.setWords(0, 0, 0, 10, words);
         for (int group = 1; group < 4; group++) {
             x.adopt(group, 0, 1);
@@ -27,7 +27,7 @@ public final class IndexTest {
     }
 
     private static void fingerprints(Checks checks) {
-        SheetVault x = withRule(1);
+        Vault x = withRule(1);
         checks.is("of no answer", x.fingerprints(0, 0), 0);
         x.open(0, 0);
         Rows.sayAll(x, 0, 0, 0, 1, 2, 3, 4);
@@ -47,7 +47,7 @@ public final class IndexTest {
     }
 
     private static void rulesHaveNoPrints(Checks checks) {
-        SheetVault x = withRule(Rows.row(1, 2, 3, 4));
+        Vault x = withRule(Rows.row(1, 2, 3, 4));
         Rows.handWords(x, 0, 0, 0, 1, 2, 3, 4, 1, 2, 3);
         checks.is("without those of the rule", x.fingerprints(0, 0), 2);
         checks.is("one of the rule", x.withPrint(0, Rows.print(2, 3, 4)), 0);
@@ -63,7 +63,7 @@ public final class IndexTest {
     }
 
     private static void manyTasks(Checks checks) {
-        SheetVault x = Rows.withSheets(1);
+        Vault x = Rows.withSheets(1);
         x.setWords(0, 0, 0, 10, Rows.row(1, 2, 3));
         x.setWords(0, 0, 4, 10, Rows.row(5, 6, 7));
         x.setNumber(0, 0, 1, 10, 0, 0);
@@ -87,7 +87,7 @@ public final class IndexTest {
     }
 
     private static void withPrint(Checks checks) {
-        SheetVault x = withRule(1);
+        Vault x = withRule(1);
         int[] pupils = {0, 5, 11};
         for (int pupil : pupils) {
             Rows.handWords(x, pupil, 0, 0, 1, 31, 31, 31);
@@ -105,7 +105,7 @@ public final class IndexTest {
     }
 
     private static void likeness(Checks checks) {
-        SheetVault x = withRule(1);
+        Vault x = withRule(1);
         Rows.handWords(x, 0, 0, 0, 1, 2, 3, 4, 5);
         Rows.handWords(x, 1, 0, 0, 1, 2, 3, 4, 6, 7);
         Rows.handWords(x, 2, 0, 0, 1, 2);
@@ -128,7 +128,7 @@ public final class IndexTest {
     }
 
     private static void pairs(Checks checks) {
-        SheetVault x = withRule(1);
+        Vault x = withRule(1);
         checks.is("pairs of none", x.pairs(0), 0);
         checks.is("pairs anew of none", x.pairsAnew(0), 0);
         checks.index(x, "pairAt of none", v -> v.pairAt(0, 0));
@@ -158,7 +158,7 @@ public final class IndexTest {
         checks.is("pairs of another sheet", x.pairs(1), 0);
     }
 
-    private static void samePairs(Checks checks, SheetVault x, int[] due) {
+    private static void samePairs(Checks checks, Vault x, int[] due) {
         checks.is("pairs", x.pairs(0), due.length);
         checks.is("pairs anew", x.pairsAnew(0), due.length);
         for (int place = 0; place < due.length && place < x.pairs(0); place++) {
@@ -166,8 +166,8 @@ public final class IndexTest {
         }
     }
 
-    private static SheetVault withTasks(int tasks) {
-        SheetVault x = Rows.withSheets(1);
+    private static Vault withTasks(int tasks) {
+        Vault x = Rows.withSheets(1);
         x.setQuota(0, 1000);
         for (int task = 0; task < tasks; task++) {
             x.setWords(0, 0, task, 10, 1);
@@ -176,7 +176,7 @@ public final class IndexTest {
     }
 
     private static void aLikenessOf59(Checks checks) {
-        SheetVault x = withTasks(3);
+        Vault x = withTasks(3);
         x.open(0, 0);
         Rows.sayAll(x, 0, 0, 0, 1, 2, 3, 4, 5, 6, 7, 8, 9, 10, 11, 12);
         Rows.sayAll(x, 0, 0, 1, 13, 14, 15, 16, 17, 18, 19, 20, 21, 22, 23, 24);
@@ -196,7 +196,7 @@ public final class IndexTest {
     }
 
     private static void fullAnswers(Checks checks) {
-        SheetVault x = withTasks(5);
+        Vault x = withTasks(5);
         for (int pupil = 0; pupil < 2; pupil++) {
             x.open(pupil, 0);
             for (int task = 0; task < 5; task++) {
@@ -215,7 +215,7 @@ public final class IndexTest {
     }
 
     private static void aMarkOfOne(Checks checks) {
-        SheetVault x = Rows.withSheets(1);
+        Vault x = Rows.withSheets(1);
         x.setWords(0, 0, 0, 1, 1);
         checks.is("hand", Rows.handWords(x, 0, 0, 0, 1, 2, 3, 4), 1);
         checks.is("hand", Rows.handWords(x, 1, 0, 0, 1, 2, 3, 4), 1);
@@ -225,7 +225,7 @@ public final class IndexTest {
     }
 
     private static void markAboveZero(Checks checks) {
-        SheetVault x = withRule(9);
+        Vault x = withRule(9);
         Rows.handWords(x, 0, 0, 0, 1, 2, 3, 4);
         Rows.handWords(x, 1, 0, 0, 1, 2, 3, 4);
         checks.is("a mark of 0", x.fingerprints(0, 0), 0);
@@ -243,7 +243,7 @@ public final class IndexTest {
     }
 
     private static void closedMarksRule(Checks checks) {
-        SheetVault x = withRule(1);
+        Vault x = withRule(1);
         Rows.handWords(x, 0, 0, 0, 1, 2, 3, 4);
         Rows.handWords(x, 3, 0, 0, 1, 2, 3, 4);
         x.close(0, 0);
@@ -256,7 +256,7 @@ public final class IndexTest {
         checks.is("pairs", x.pairs(0), 0);
         checks.is("pairs anew", x.pairsAnew(0), 0);
 
-        SheetVault y = withRule(9);
+        Vault y = withRule(9);
         Rows.handWords(y, 0, 0, 0, 1, 2, 3, 4);
         y.close(0, 0);
         checks.is("mend", y.mendWords(0, 1, 0, 1), 1);
@@ -264,7 +264,7 @@ public final class IndexTest {
     }
 
     private static void whatIsNotThere(Checks checks) {
-        SheetVault x = Rows.withSheets(1);
+        Vault x = Rows.withSheets(1);
         int[] pupils = {-1, 12, Rows.MOST, Rows.LEAST};
         for (int pupil : pupils) {
             checks.index(x, "fingerprints", v -> v.fingerprints(pupil, 0));

@@ -14,7 +14,7 @@ public final class MendsTest {
     }
 
     private static void mendNumber(Checks checks) {
-        SheetVault x = Rows.withSheets(1);
+        Vault x = Rows.withSheets(1);
         x.setNumber(0, 0, 0, 6, 10, 0);
         for (int pupil = 0; pupil < 3; pupil++) {
             x.open(pupil, 0);
@@ -43,7 +43,7 @@ public final class MendsTest {
     }
 
     private static void mendChoice(Checks checks) {
-        SheetVault x = Rows.withSheets(1);
+        Vault x = Rows.withSheets(1);
         x.setChoice(0, 0, 0, 7, 0b00011);
         x.open(0, 0);
         x.say(0, 0, 0, 0);
@@ -59,7 +59,7 @@ public final class MendsTest {
     }
 
     private static void mendWords(Checks checks) {
-        SheetVault x = Rows.withSheets(1);
+        Vault x = Rows.withSheets(1);
         x.setWords(0, 0, 0, 9, Rows.row(1, 2));
         checks.is("hand", Rows.handWords(x, 0, 0, 0, 2, 3, 4), 4);
         checks.is("used", x.used(0), 5);
@@ -76,7 +76,7 @@ public final class MendsTest {
     }
 
     private static void mendsReachTheirVersionsAlone(Checks checks) {
-        SheetVault x = Rows.withSheets(2);
+        Vault x = Rows.withSheets(2);
         x.setNumber(0, 0, 0, 5, 1, 0);
         x.setNumber(0, 1, 0, 5, 1, 0);
         x.adopt(1, 0, 1);
@@ -106,7 +106,7 @@ public final class MendsTest {
     }
 
     private static void openAnswersAreNotCounted(Checks checks) {
-        SheetVault x = Rows.withSheets(1);
+        Vault x = Rows.withSheets(1);
         x.setNumber(0, 0, 0, 5, 1, 0);
         x.open(0, 0);
         x.say(0, 0, 0, 2);
@@ -117,7 +117,7 @@ public final class MendsTest {
     }
 
     private static void closedMarksStay(Checks checks) {
-        SheetVault x = Rows.withSheets(1);
+        Vault x = Rows.withSheets(1);
         x.setNumber(0, 0, 0, 5, 1, 0);
         x.adopt(1, 0, 1);
         x.open(0, 0);
@@ -142,7 +142,7 @@ public final class MendsTest {
     }
 
     private static void wrongMends(Checks checks) {
-        SheetVault x = Rows.withSheets(1);
+        Vault x = Rows.withSheets(1);
         x.setNumber(0, 0, 0, 5, 1, 0);
         x.setChoice(0, 0, 1, 5, 1);
         x.setWords(0, 0, 2, 5, 1);
@@ -202,7 +202,7 @@ public final class MendsTest {
     }
 
     private static void quotaOfTheEntry(Checks checks) {
-        SheetVault x = Rows.withSheets(1);
+        Vault x = Rows.withSheets(1);
         x.setWords(0, 0, 0, 5, Rows.row(1, 2));
         x.setNumber(0, 0, 1, 5, 1, 0);
         x.adopt(1, 0, 2);

@@ -15,7 +15,7 @@ public final class RevisionsTest {
     }
 
     private static void setNumber(Checks checks) {
-        SheetVault x = Rows.withSheets(1);
+        Vault x = Rows.withSheets(1);
         checks.is("setNumber", x.setNumber(1, 0, 2, 7, -1000, 0), 1);
         checks.is("head", x.head(1, 0), 1);
         checks.is("head of another class", x.head(0, 0), 0);
@@ -60,7 +60,7 @@ public final class RevisionsTest {
     }
 
     private static void setChoice(Checks checks) {
-        SheetVault x = Rows.withSheets(1);
+        Vault x = Rows.withSheets(1);
         checks.is("setChoice", x.setChoice(3, 0, 0, 10, 0), 1);
         checks.is("setChoice of all signs", x.setChoice(3, 0, 1, 1, 31), 2);
         checks.is("kindOf", x.kindOf(0, 2, 0), SheetVault.CHOICE);
@@ -83,7 +83,7 @@ public final class RevisionsTest {
     }
 
     private static void setWords(Checks checks) {
-        SheetVault x = Rows.withSheets(1);
+        Vault x = Rows.withSheets(1);
         checks.is("setWords of one", x.setWords(2, 0, 3, 9, Rows.row(31)), 1);
         checks.is("used by one word", x.used(2), 1);
         checks.is("setWords of six", x.setWords(2, 0, 3, 8, Rows.row(31, 31, 31, 31, 31, 31)), 2);
@@ -117,7 +117,7 @@ public final class RevisionsTest {
     }
 
     private static void drop(Checks checks) {
-        SheetVault x = Rows.withSheets(1);
+        Vault x = Rows.withSheets(1);
         checks.state(x, "drop without task", v -> v.drop(0, 0, 0));
         x.setNumber(0, 0, 0, 5, 1, 1);
         checks.state(x, "drop of what another class has", v -> v.drop(1, 0, 0));
@@ -142,7 +142,7 @@ public final class RevisionsTest {
     }
 
     private static void adopt(Checks checks) {
-        SheetVault x = Rows.withSheets(2);
+        Vault x = Rows.withSheets(2);
         x.setNumber(0, 0, 0, 5, 1, 1);
         checks.is("adopt", x.adopt(1, 0, 1), 0);
         checks.is("head", x.head(1, 0), 1);
@@ -165,7 +165,7 @@ public final class RevisionsTest {
     }
 
     private static void versionsBranch(Checks checks) {
-        SheetVault x = Rows.withSheets(1);
+        Vault x = Rows.withSheets(1);
         x.setNumber(0, 0, 0, 5, 1, 1);
         x.adopt(1, 0, 1);
         x.setChoice(0, 0, 1, 3, 1);
@@ -183,7 +183,7 @@ public final class RevisionsTest {
     }
 
     private static void sixteenVersions(Checks checks) {
-        SheetVault x = Rows.withSheets(2);
+        Vault x = Rows.withSheets(2);
         for (int version = 1; version < 16; version++) {
             checks.is("a version", x.setChoice(version % 4, 0, version % 5, 1, 0), version);
         }
@@ -201,7 +201,7 @@ public final class RevisionsTest {
     }
 
     private static void whatIsNotThere(Checks checks) {
-        SheetVault x = Rows.withSheets(1);
+        Vault x = Rows.withSheets(1);
         x.setNumber(0, 0, 0, 5, 1, 1);
         x.adopt(0, 0, 0);
         x.fold(0, 1);
@@ -233,7 +233,7 @@ public final class RevisionsTest {
     }
 
     private static void sheetsAreApart(Checks checks) {
-        SheetVault x = Rows.withSheets(2);
+        Vault x = Rows.withSheets(2);
         x.setNumber(0, 0, 0, 5, 1, 1);
         checks.is("versions of the other sheet", x.versions(1), 1);
         checks.is("head in the other sheet", x.head(0, 1), 0);

@@ -20,7 +20,10 @@ public final class RoomTest {
 
     /** 512 calls: all sheets, versions and answers, and then the dearest calls. */
     private static void aRun() {
-        SheetVault vault = Rows.withSheets(4);
+        SheetVault vault = new SheetVault();
+        for (int sheet = 0; sheet < 4; sheet++) {
+            vault.addSheet();
+        }
         for (int group = 0; group < 4; group++) {
             vault.setQuota(group, 1000);
         }

@@ -20,22 +20,22 @@ final class Rows {
         return 1024 * first + 32 * second + third;
     }
 
-    static SheetVault withSheets(int sheets) {
-        SheetVault vault = new SheetVault();
+    static Vault withSheets(int sheets) {
+        Vault vault = new Vault();
         for (int sheet = 0; sheet < sheets; sheet++) {
             vault.addSheet();
         }
         return vault;
     }
 
-    static void sayAll(SheetVault vault, int pupil, int sheet, int task, int... words) {
+    static void sayAll(Vault vault, int pupil, int sheet, int task, int... words) {
         for (int word : words) {
             vault.say(pupil, sheet, task, word);
         }
     }
 
     /** Opens a sheet, says words for a task, and hands in; returns the mark. */
-    static int handWords(SheetVault vault, int pupil, int sheet, int task, int... words) {
+    static int handWords(Vault vault, int pupil, int sheet, int task, int... words) {
         vault.open(pupil, sheet);
         sayAll(vault, pupil, sheet, task, words);
         return vault.hand(pupil, sheet);

@@ -8,7 +8,7 @@ public final class SheetsTest {
     }
 
     private static void aNewObject(Checks checks) {
-        SheetVault x = new SheetVault();
+        Vault x = new Vault();
         checks.is("sheets() of a new object", x.sheets(), 0);
         for (int group = 0; group < 4; group++) {
             checks.is("used of a new object", x.used(group), 0);
@@ -22,7 +22,7 @@ public final class SheetsTest {
     }
 
     private static void addSheet(Checks checks) {
-        SheetVault x = new SheetVault();
+        Vault x = new Vault();
         for (int sheet = 0; sheet < 4; sheet++) {
             checks.is("addSheet()", x.addSheet(), sheet);
             checks.is("sheets()", x.sheets(), sheet + 1);

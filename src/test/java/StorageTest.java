@@ -9,7 +9,7 @@ public final class StorageTest {
     }
 
     private static void setQuota(Checks checks) {
-        SheetVault x = new SheetVault();
+        Vault x = new Vault();
         checks.is("setQuota", x.setQuota(0, 0), 100);
         checks.is("setQuota", x.setQuota(0, 1000), 0);
         checks.argument(x, "setQuota 1001", v -> v.setQuota(0, 1001));
@@ -28,7 +28,7 @@ public final class StorageTest {
     }
 
     private static void used(Checks checks) {
-        SheetVault x = Rows.withSheets(2);
+        Vault x = Rows.withSheets(2);
         x.setNumber(0, 0, 0, 1, 1, 1);
         x.setChoice(0, 0, 1, 1, 0);
         x.setWords(0, 1, 2, 1, Rows.row(1, 2, 3, 4, 5, 6));
@@ -57,13 +57,13 @@ public final class StorageTest {
         checks.index(x, "usedAnew class -1", v -> v.usedAnew(-1));
     }
 
-    private static void same(Checks checks, SheetVault x, int group, int due) {
+    private static void same(Checks checks, Vault x, int group, int due) {
         checks.is("used", x.used(group), due);
         checks.is("usedAnew", x.usedAnew(group), due);
     }
 
     private static void firstQuota(Checks checks) {
-        SheetVault x = Rows.withSheets(2);
+        Vault x = Rows.withSheets(2);
         int six = Rows.row(1, 1, 1, 1, 1, 1);
         for (int version = 1; version < 16; version++) {
             x.setWords(2, 0, 0, 1, six);
