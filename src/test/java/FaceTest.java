@@ -31,8 +31,7 @@ public final class FaceTest {
         checks.holds("one public constructor", one && Modifier.isPublic(constructors[0].getModifiers()));
         for (Class<?> inside : SheetVault.class.getDeclaredClasses()) {
             int its = inside.getModifiers();
-            boolean hidden = !Modifier.isPublic(its) && !Modifier.isProtected(its);
-            checks.holds("a class inside is hidden and static", hidden && Modifier.isStatic(its));
+            checks.holds("a class inside is hidden", !Modifier.isPublic(its) && !Modifier.isProtected(its));
         }
         Rows.end(checks);
     }
@@ -56,7 +55,8 @@ public final class FaceTest {
         checks.holds("the public methods are " + seen + ", due are " + due, seen.equals(due));
         for (Class<?> inside : SheetVault.class.getDeclaredClasses()) {
             for (Method method : inside.getDeclaredMethods()) {
-                checks.holds("a method inside has a public name: " + method, !names.contains(method.getName()));
+                boolean its = Modifier.isPrivate(method.getModifiers()) && names.contains(method.getName());
+                checks.holds("a hidden method inside has a public name: " + method, !its);
             }
         }
     }

@@ -2,7 +2,8 @@ import java.util.function.Supplier;
 
 /**
  * "If several exceptions of a throws clause apply, the one that is listed first is thrown. A call that throws an
- * exception changes nothing": two arguments out of range, and an argument out of range where the state refuses the call.
+ * exception changes nothing": two arguments out of range, and an argument out of range where the state refuses the
+ * call.
  */
 public final class FirstTest {
     public static void main(String[] args) {

@@ -326,7 +326,8 @@ final class PlainVault {
             Version folded = sheet(sheet).versions.remove(version);
             for (int child : children) {
                 sheet(sheet).versions.get(child).parent = folded.parent;
-                folded.entries.forEach((task, rule) -> sheet(sheet).versions.get(child).entries.putIfAbsent(task, rule));
+                Map<Integer, Rule> entries = sheet(sheet).versions.get(child).entries;
+                folded.entries.forEach((task, rule) -> entries.putIfAbsent(task, rule));
             }
         });
         return before - takes(0) - takes(1) - takes(2) - takes(3);

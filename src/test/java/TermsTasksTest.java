@@ -354,20 +354,24 @@ public final class TermsTasksTest {
         x.say(1, 0, 0, 5);
         x.say(1, 0, 2, 9);
         checks.is("hand", x.hand(1, 0), 10);
-        int[] dues = {20, 10, 15, 20};
-        int[] changed = {1, 1, 1, 1};
-        for (int mend = 0; mend < dues.length; mend++) {
-            int answer = mend == 0 ? x.mendNumber(0, 3, 0, 5, 0) : mend == 1 ? x.mendChoice(0, 3, 1, 1)
-                    : x.mendWords(0, 3, 2, mend == 2 ? Rows.row(9, 1) : 9);
-            checks.is("mend", answer, changed[mend]);
-            checks.is("due of the open answer", x.due(0, 0), dues[mend]);
-            checks.is("due of the answer handed in", x.due(1, 0), dues[mend]);
-            checks.is("mark of the answer handed in", x.mark(1, 0), dues[mend]);
-        }
+        checks.is("mendNumber", x.mendNumber(0, 3, 0, 5, 0), 1);
+        bothDues(checks, x, 20);
+        checks.is("mendChoice", x.mendChoice(0, 3, 1, 1), 1);
+        bothDues(checks, x, 10);
+        checks.is("mendWords", x.mendWords(0, 3, 2, Rows.row(9, 1)), 1);
+        bothDues(checks, x, 15);
+        checks.is("mendWords", x.mendWords(0, 3, 2, 9), 1);
+        bothDues(checks, x, 20);
         checks.is("hand later", x.hand(0, 0), 20);
     }
 
-    /** "change the rule in the entry that tells it, wherever that is; so it is mended for all versions that have it". */
+    private static void bothDues(Checks checks, Vault x, int due) {
+        checks.is("due of the open answer", x.due(0, 0), due);
+        checks.is("due of the answer handed in", x.due(1, 0), due);
+        checks.is("mark of the answer handed in", x.mark(1, 0), due);
+    }
+
+    /** "wherever that is; so it is mended for all versions that have it from this entry". */
     private static void mendedForAllVersions(Checks checks) {
         for (int by = 1; by <= 4; by++) {
             Vault x = Rows.withSheets(1);

@@ -277,7 +277,7 @@ public final class TermsVersionsTest {
         checks.is("it stays in the parent", x.kindOf(0, 2, 1), SheetVault.NUMBER);
     }
 
-    /** "A class revises a sheet by making a version with one entry, whose parent is its head; this becomes its head." */
+    /** "by making a version with one entry, whose parent is its head; this becomes its head". */
     private static void revising(Checks checks) {
         Vault x = Rows.withSheets(2);
         x.setNumber(0, 0, 0, 1, 0, 0);

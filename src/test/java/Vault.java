@@ -55,17 +55,20 @@ final class Vault {
 
     int setNumber(int group, int sheet, int task, int points, int value, int slack) {
         count();
-        return keep(its.setNumber(group, sheet, task, points, value, slack), v -> v.setNumber(group, sheet, task, points, value, slack));
+        int answer = its.setNumber(group, sheet, task, points, value, slack);
+        return keep(answer, v -> v.setNumber(group, sheet, task, points, value, slack));
     }
 
     int setChoice(int group, int sheet, int task, int points, int signs) {
         count();
-        return keep(its.setChoice(group, sheet, task, points, signs), v -> v.setChoice(group, sheet, task, points, signs));
+        int answer = its.setChoice(group, sheet, task, points, signs);
+        return keep(answer, v -> v.setChoice(group, sheet, task, points, signs));
     }
 
     int setWords(int group, int sheet, int task, int points, int words) {
         count();
-        return keep(its.setWords(group, sheet, task, points, words), v -> v.setWords(group, sheet, task, points, words));
+        int answer = its.setWords(group, sheet, task, points, words);
+        return keep(answer, v -> v.setWords(group, sheet, task, points, words));
     }
 
     int drop(int group, int sheet, int task) {
@@ -85,7 +88,8 @@ final class Vault {
 
     int mendNumber(int sheet, int version, int task, int value, int slack) {
         count();
-        return keep(its.mendNumber(sheet, version, task, value, slack), v -> v.mendNumber(sheet, version, task, value, slack));
+        int answer = its.mendNumber(sheet, version, task, value, slack);
+        return keep(answer, v -> v.mendNumber(sheet, version, task, value, slack));
     }
 
     int mendChoice(int sheet, int version, int task, int signs) {
