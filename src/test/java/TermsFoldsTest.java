@@ -9,6 +9,7 @@ public final class TermsFoldsTest {
         notWithAnAnswer(checks);
         notMoreThanOneChild(checks);
         childrenOfFoldedOnes(checks);
+        inItsSheetAlone(checks);
         withoutChild(checks);
         theParentOfTheChild(checks);
         allEntriesForOtherTasks(checks);
@@ -17,6 +18,7 @@ public final class TermsFoldsTest {
         howMuchLess(checks);
         quotasOfTheChild(checks);
         quotasThatDoNotMatter(checks);
+        entriesOfTheChildsClass(checks);
         nothingElseChanges(checks);
         whatWasFolded(checks);
         Rows.end(checks);
@@ -150,6 +152,28 @@ public final class TermsFoldsTest {
         checks.is("and back", z.fold(0, 1), 0);
         checks.is("points of the last one", z.points(0, 4), 10);
         checks.is("parent of the last one", z.parent(0, 4), 0);
+    }
+
+    /** Heads, answers and children in another sheet do not matter. */
+    private static void inItsSheetAlone(Checks checks) {
+        Vault x = Rows.withSheets(2);
+        for (int sheet = 0; sheet < 2; sheet++) {
+            x.setChoice(0, sheet, 0, 1, 1);
+        }
+        x.adopt(0, 1, 0);
+        checks.is("a head of the same number in another sheet", x.again().fold(1, 1), 1);
+        x.open(0, 0);
+        x.adopt(0, 0, 0);
+        checks.is("an answer in another sheet", x.again().fold(1, 1), 1);
+        for (int group = 1; group < 4; group++) {
+            x.adopt(group, 0, 1);
+            x.setChoice(group, 0, 1, 1, 1);
+        }
+        checks.is("children in another sheet", x.again().fold(1, 1), 1);
+        checks.is("fold", x.fold(1, 1), 1);
+        checks.is("the other sheet stays", x.versions(0), 5);
+        checks.is("the other sheet stays", x.points(0, 2), 2);
+        checks.state(x, "the one in the other sheet", v -> v.fold(0, 1));
     }
 
     /** "To fold a version is to take it away". */
@@ -352,6 +376,19 @@ public final class TermsFoldsTest {
         z.adopt(0, 0, 0);
         checks.is("no child above the quota", z.fold(0, 2), 2);
         uses(checks, z, 0, 0, 0, 0);
+    }
+
+    /** What the child gets is its own then: a mend of it counts for the class that owns the child. */
+    private static void entriesOfTheChildsClass(Checks checks) {
+        Vault x = between();
+        x.fold(0, 2);
+        x.setQuota(1, 0);
+        x.setQuota(2, 6);
+        checks.state(x, "two words more", v -> v.mendWords(0, 3, 0, Rows.row(1, 2, 3, 4, 5, 6)));
+        checks.is("a word more", x.mendWords(0, 3, 0, Rows.row(1, 2, 3, 4, 5)), 0);
+        uses(checks, x, 0, 0, 6, 0);
+        checks.is("words less", x.mendWords(0, 3, 0, 1), 0);
+        uses(checks, x, 0, 0, 2, 0);
     }
 
     /** What the versions have as tasks, the answers and the marks stay. */
