@@ -165,6 +165,13 @@ public final class TermsPrintsTest {
                 Rows.print(6, 5, 4));
         Rows.handWords(six, 3, 0, 0, 1, 3, 5);
         indexed(checks, "words of the rule that do not follow there", six, 3, Rows.print(1, 3, 5));
+        for (int word = 1; word <= 31; word++) {
+            Vault x = withRule(1, 2, 3, 4, 5, 31);
+            Rows.handWords(x, 0, 0, 0, word, 1, 2);
+            indexed(checks, "a word ahead of the rule", x, 0, Rows.print(word, 1, 2));
+            Rows.handWords(x, 1, 0, 0, 5, 31, word);
+            indexed(checks, "a word behind the rule", x, 1, Rows.print(5, 31, word));
+        }
         Vault same = withRule(31, 31, 31, 31, 31, 31);
         Rows.handWords(same, 0, 0, 0, 31, 31, 31, 31, 31, 31, 31, 31, 31, 31, 31, 31);
         indexed(checks, "one word again and again", same, 0);
@@ -191,6 +198,24 @@ public final class TermsPrintsTest {
         Rows.sayAll(x, 2, 0, 1, 1, 2, 3);
         x.hand(2, 0);
         indexed(checks, "in the rule of one of two tasks", x, 2, Rows.print(1, 2, 3));
+        pairsByEachRule(checks);
+    }
+
+    /** With each of five tasks as the one whose rule has the three words: then they are no pair. */
+    private static void pairsByEachRule(Checks checks) {
+        for (int task = 0; task < 5; task++) {
+            for (int said = 0; said < 5; said++) {
+                Vault x = Rows.withSheets(1);
+                for (int each = 0; each < 5; each++) {
+                    x.setWords(0, 0, each, 10, each == task ? Rows.row(1, 2, 3, 4) : 1);
+                }
+                Rows.handWords(x, 0, 0, said, 1, 2, 3, 4);
+                Rows.handWords(x, 2, 0, said, 1, 2, 3, 4);
+                likeAnew(checks, x, said == task ? 0 : 1);
+                checks.is("likeness", x.likeness(0, 0, 2), said == task ? 0 : 100);
+                checks.is("fingerprints", x.fingerprints(2, 0), said == task ? 0 : 2);
+            }
+        }
     }
 
     /** "as it is now". */
@@ -238,6 +263,31 @@ public final class TermsPrintsTest {
         checks.is("by an entry of its own", x.withPrint(0, Rows.print(1, 2, 3)), 0);
         x.mendWords(0, 1, 0, 1);
         checks.is("by the entry of the parent again", x.withPrint(0, Rows.print(1, 2, 3)), 1 | 1 << 3);
+        oneLessInOneVersion(checks);
+    }
+
+    /** Of the fingerprints that both have, one goes out in one of two versions: the lowest, a middle or the highest. */
+    private static void oneLessInOneVersion(Checks checks) {
+        int[][] rules = {{1, 2, 3}, {2, 3, 4}, {3, 4, 5}};
+        for (int[] rule : rules) {
+            Vault x = withRule(1);
+            x.setWords(2, 0, 0, 10, 1);
+            Rows.handWords(x, 0, 0, 0, 1, 2, 3, 4, 5);
+            Rows.handWords(x, 6, 0, 0, 1, 2, 3, 4, 5);
+            checks.is("likeness ahead", x.likeness(0, 0, 6), 100);
+            likeAnew(checks, x, 1);
+            checks.is("mend of the one version", x.mendWords(0, 2, 0, Rows.row(rule)), 0);
+            checks.is("fingerprints", x.fingerprints(6, 0), 2);
+            checks.is("fingerprints of the other version", x.fingerprints(0, 0), 3);
+            checks.is("likeness, two of two and three", x.likeness(0, 0, 6), 100);
+            checks.is("the other way round", x.likeness(0, 6, 0), 100);
+            checks.is("with print", x.withPrint(0, Rows.print(rule[0], rule[1], rule[2])), 1);
+            likeAnew(checks, x, 1);
+            checks.is("mend of the other version", x.mendWords(0, 1, 0, Rows.row(1, 2, 3, 4, 5)), 0);
+            checks.is("likeness, none", x.likeness(0, 0, 6), 0);
+            checks.is("the other way round", x.likeness(0, 6, 0), 0);
+            likeAnew(checks, x, 0);
+        }
     }
 
     /** "Each number counts once in an answer." */
@@ -304,6 +354,11 @@ public final class TermsPrintsTest {
         Rows.handWords(x, 2, 0, 0, 2, 3, 4, 5, 1);
         checks.is("mark", x.mark(2, 0), 1);
         indexed(checks, "a mark of 1", x, 2, Rows.print(2, 3, 4), Rows.print(3, 4, 5), Rows.print(4, 5, 1));
+        Vault low = Rows.withSheets(1);
+        low.setWords(0, 0, 0, 1, 1);
+        Rows.handWords(low, 0, 0, 0, 9, 8, 7, 6, 5, 1);
+        indexed(checks, "a mark of 1, the highest print first", low, 0, Rows.print(9, 8, 7), Rows.print(8, 7, 6),
+                Rows.print(7, 6, 5), Rows.print(6, 5, 1));
         checks.is("likeness of marks of 0 and 1", x.likeness(0, 0, 2), 0);
         checks.is("with print", x.withPrint(0, Rows.print(2, 3, 4)), 4);
 
@@ -348,6 +403,23 @@ public final class TermsPrintsTest {
         checks.is("due of the mark of 0 that stays", x.due(3, 0), 10);
         indexed(checks, "a mark of 0 that stays", x, 3);
         checks.is("likeness", x.likeness(0, 0, 3), 0);
+
+        Vault y = withRule(1);
+        int[] firsts = {1, 1, 9, 9};
+        int[] pupils = {0, 2, 3, 5};
+        for (int place = 0; place < 4; place++) {
+            Rows.handWords(y, pupils[place], 0, 0, firsts[place], 2, 3, 4, 5);
+        }
+        likeAnew(checks, y, 1);
+        y.close(0, 0);
+        y.close(1, 0);
+        checks.is("mend for the one class and against the other", y.mendWords(0, 1, 0, 9), 4);
+        checks.is("due of marks above 0 that stay", y.due(0, 0) + y.due(2, 0), 0);
+        checks.is("due of marks of 0 that stay", y.due(3, 0) + y.due(5, 0), 20);
+        likeAnew(checks, y, 1);
+        checks.is("the pair of marks above 0", y.pairAt(0, 0), 2);
+        checks.is("likeness of marks above 0", y.likeness(0, 0, 2), 100);
+        checks.is("likeness of marks of 0", y.likeness(0, 3, 5), 0);
     }
 
     private static Vault two(int[] one, int[] other) {
@@ -391,22 +463,35 @@ public final class TermsPrintsTest {
 
     /** "They are a pair if they have at least 2 fingerprints in common". */
     private static void twoInCommon(Checks checks) {
-        Vault one = two(new int[] {1, 2, 3}, new int[] {1, 2, 3});
-        checks.is("likeness of one in common", one.likeness(0, 4, 9), 100);
-        likeAnew(checks, one, 0);
-        checks.index(one, "no pair", v -> v.pairAt(0, 0));
-        Vault oneOfMany = two(new int[] {1, 2, 3}, new int[] {9, 9, 9, 1, 2, 3, 4, 5});
-        checks.is("likeness of one in common", oneOfMany.likeness(0, 4, 9), 100);
-        likeAnew(checks, oneOfMany, 0);
-        Vault two = two(new int[] {1, 2, 3, 4}, new int[] {1, 2, 3, 4});
-        checks.is("likeness of two in common", two.likeness(0, 4, 9), 100);
-        likeAnew(checks, two, 1);
-        checks.is("the pair", two.pairAt(0, 0), 409);
-        Vault twoOfMany = two(new int[] {1, 2, 3, 4}, new int[] {9, 8, 7, 1, 2, 3, 4, 5, 6, 9, 9, 9});
-        checks.is("likeness of two in common", twoOfMany.likeness(0, 4, 9), 100);
-        likeAnew(checks, twoOfMany, 1);
-        Vault none = two(new int[] {1, 2}, new int[] {1, 2});
-        likeAnew(checks, none, 0);
+        int[] three = {1, 2, 3};
+        int[] four = {1, 2, 3, 4};
+        paired(checks, three, three, 100, 0);
+        paired(checks, three, four, 100, 0);
+        paired(checks, three, new int[] {9, 9, 9, 1, 2, 3, 4, 5}, 100, 0);
+        paired(checks, three, new int[] {12, 11, 10, 9, 8, 7, 6, 5, 4, 1, 2, 3}, 100, 0);
+        paired(checks, four, four, 100, 1);
+        paired(checks, four, new int[] {1, 2, 3, 4, 5}, 100, 1);
+        paired(checks, four, new int[] {9, 8, 7, 1, 2, 3, 4, 5, 6, 9, 9, 9}, 100, 1);
+        paired(checks, new int[] {1, 2}, new int[] {1, 2}, 0, 0);
+        paired(checks, new int[] {1, 2}, four, 0, 0);
+        paired(checks, new int[] {1}, new int[] {1, 2, 3, 4, 5, 6, 7, 8, 9, 10, 11, 12}, 0, 0);
+    }
+
+    /** The same whichever of both pupils has said the one and the other. */
+    private static void paired(Checks checks, int[] one, int[] other, int likeness, int pairs) {
+        for (int turn = 0; turn < 2; turn++) {
+            Vault x = turn == 0 ? two(one, other) : two(other, one);
+            String what = Arrays.toString(one) + " and " + Arrays.toString(other);
+            checks.is("likeness of " + what, x.likeness(0, 4, 9), likeness);
+            checks.is("the other way round", x.likeness(0, 9, 4), likeness);
+            likeAnew(checks, x, pairs);
+            if (pairs == 0) {
+                checks.index(x, "no pair", v -> v.pairAt(0, 0));
+            } else {
+                checks.is("the pair", x.pairAt(0, 0), 409);
+                checks.index(x, "no second pair", v -> v.pairAt(0, 1));
+            }
+        }
     }
 
     /** "and a likeness of at least 60". */
@@ -422,10 +507,12 @@ public final class TermsPrintsTest {
         };
         int[] due = {60, 40, 60, 50, 66, 50, 57};
         for (int row = 0; row < ones.length; row++) {
-            Vault x = two(ones[row], others[row]);
-            checks.is("likeness", x.likeness(0, 4, 9), due[row]);
-            likeAnew(checks, x, due[row] >= 60 ? 1 : 0);
+            paired(checks, ones[row], others[row], due[row], due[row] >= 60 ? 1 : 0);
         }
+        int[] five = {1, 2, 3, 4, 5, 16, 17};
+        paired(checks, five, new int[] {1, 2, 3, 4, 5, 6, 7, 8, 9, 10, 11, 12}, 60, 1);
+        int[] four = {1, 2, 3, 4, 15, 16};
+        paired(checks, four, new int[] {1, 2, 3, 4, 5, 6, 7, 8, 9, 10, 11, 12}, 50, 0);
         nearSixty(checks, 13, 59);
         nearSixty(checks, 14, 63);
     }

@@ -23,6 +23,7 @@ public final class TermsTasksTest {
         emptyAtFirst(checks);
         rulesAsTheyAreNow(checks);
         mendedForAllVersions(checks);
+        mendedForEachTask(checks);
         pointsStay(checks);
         mendedToTheEnds(checks);
         Rows.end(checks);
@@ -235,6 +236,14 @@ public final class TermsTasksTest {
         checks.is("another pupil has its own 12", x.say(1, 0, 0, 1), 1);
         checks.is("another sheet has its own 12", x.say(0, 1, 0, 1), 1);
         checks.is("hand", x.hand(0, 0), 4);
+        for (int points = 1; points <= 10; points++) {
+            Vault full = Rows.withSheets(1);
+            full.setWords(0, 0, 0, points, 1);
+            full.open(0, 0);
+            Rows.sayAll(full, 0, 0, 0, 2, 2, 2, 2, 2, 2, 2, 2, 2, 2, 2, 2);
+            checks.state(full, "the 13th word", v -> v.say(0, 0, 0, 1));
+            checks.is("it is not said", full.hand(0, 0), 0);
+        }
         words(checks, 10, 1, 10, 2, 2, 2, 2, 2, 2, 2, 2, 2, 2, 2, 1);
         words(checks, 10, Rows.row(1, 1, 1, 1, 1, 1), 10, 2, 1, 2, 1, 2, 1, 2, 1, 2, 1, 2, 1);
 
@@ -404,6 +413,43 @@ public final class TermsTasksTest {
             checks.is("its mark", x.mark(10, 0), 7);
             checks.state(x, "mend of the version that drops", v -> v.mendNumber(0, 6, 0, 2, 0));
             checks.state(x, "mend of the version 0", v -> v.mendNumber(0, 0, 0, 2, 0));
+        }
+    }
+
+    /** Each task alone has its entry, in a version of another class than the others. */
+    private static void mendedForEachTask(Checks checks) {
+        for (int task = 0; task < 5; task++) {
+            Vault x = Rows.withSheets(1);
+            x.setWords(3, 0, task, 4, Rows.row(1, 2));
+            x.adopt(1, 0, 1);
+            checks.is("mend of the only task", x.mendWords(0, 1, task, 2), 0);
+            checks.is("used by its class", x.used(3), 1);
+            for (int other = 0; other < 5; other++) {
+                if (other != task) {
+                    x.setNumber(1, 0, other, 1, 1, 0);
+                }
+            }
+            x.setQuota(1, 0);
+            x.setQuota(3, 3);
+            int its = task;
+            checks.state(x, "past the quota of its class", v -> v.mendWords(0, 5, its, Rows.row(1, 2, 3, 4)));
+            x.open(3, 0);
+            x.hand(3, 0);
+            x.setQuota(1, 100);
+            x.open(4, 0);
+            x.say(4, 0, task, 3);
+            x.hand(4, 0);
+            checks.is("mend up to the quota of its class", x.mendWords(0, 5, task, Rows.row(1, 2, 3)), 1);
+            checks.is("mark", x.mark(4, 0), 1);
+            checks.is("mark of nothing said", x.mark(3, 0), 0);
+            checks.is("used by its class", x.used(3), 3);
+            checks.is("used by the other class", x.used(1), 8 + 1);
+            for (int other = 0; other < 5; other++) {
+                int number = other;
+                if (other != task) {
+                    checks.state(x, "mend of another kind", v -> v.mendWords(0, 5, number, 1));
+                }
+            }
         }
     }
 
