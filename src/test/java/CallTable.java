@@ -137,8 +137,8 @@ final class CallTable {
         return argument;
     }
 
-    /** Makes a call by its name. */
-    static int make(Vault vault, String method, int... values) {
+    /** Makes a call by its name, of a Vault or of a PlainVault. */
+    static int make(Object vault, String method, int... values) {
         Class<?>[] types = new Class<?>[values.length];
         Object[] boxes = new Object[values.length];
         for (int place = 0; place < values.length; place++) {
@@ -146,7 +146,7 @@ final class CallTable {
             boxes[place] = values[place];
         }
         try {
-            Method its = Vault.class.getDeclaredMethod(method, types);
+            Method its = vault.getClass().getDeclaredMethod(method, types);
             return (Integer) its.invoke(vault, boxes);
         } catch (InvocationTargetException e) {
             if (e.getCause() instanceof RuntimeException) {
@@ -155,6 +155,15 @@ final class CallTable {
             throw new AssertionError(e.getCause());
         } catch (ReflectiveOperationException e) {
             throw new AssertionError(e);
+        }
+    }
+
+    /** What a call answers, or the name of what it throws. */
+    static String answerOf(Object vault, String method, int... values) {
+        try {
+            return String.valueOf(make(vault, method, values));
+        } catch (RuntimeException e) {
+            return e.getClass().getName();
         }
     }
 

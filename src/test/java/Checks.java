@@ -1,3 +1,5 @@
+import java.util.List;
+
 /** Counts the checks of one test and tells those that fail. */
 final class Checks {
     int passed = 0;
@@ -39,7 +41,8 @@ final class Checks {
             thrown = e.getClass();
         }
         count(thrown == due, what + " threw " + thrown + ", due is " + due);
-        count(thrown == null || before.equals(Picture.after(vault, call)), what + " threw, but changed something");
+        boolean same = thrown == null || before.equals(Picture.after(vault, List.of(call)));
+        count(same, what + " threw, but changed something");
     }
 
     /** The picture is kept for the next refused call, as long as nothing changes. */
@@ -47,7 +50,7 @@ final class Checks {
         if (drawn != vault || drawnChanges != vault.changeCount()) {
             drawn = vault;
             drawnChanges = vault.changeCount();
-            picture = Picture.of(vault);
+            picture = Picture.of(vault, 1);
         }
         return picture;
     }

@@ -1,3 +1,5 @@
+import java.util.List;
+
 /**
  * All that can be found out of the state of an object, as one text, to see whether two states are the same: what it
  * answers, and what further calls do with it. Every question goes to a new object in that state, so that no object
@@ -8,23 +10,27 @@ final class Picture {
     private static final int WORDS = 3;
 
     private final Vault model;
-    private final Vault.Call refused;
+    private final List<Vault.Call> refused;
+    private final int roomLeft;
     private final StringBuilder text = new StringBuilder();
     private Vault asked;
     private int room;
 
-    private Picture(Vault model, Vault.Call refused) {
+    /** The room that is left is the same with and without the refused calls, so that both pictures ask the same. */
+    private Picture(Vault model, List<Vault.Call> refused, int reserved) {
         this.model = model;
         this.refused = refused;
+        this.roomLeft = Vault.MOST_CALLS - model.changeCount() - reserved;
     }
 
-    static String of(Vault vault) {
-        return new Picture(vault, null).draw();
+    /** The picture that a picture with so many refused calls is to be the same as. */
+    static String of(Vault vault, int reserved) {
+        return new Picture(vault, List.of(), reserved).draw();
     }
 
-    /** The picture when one call more was made, which throws. */
-    static String after(Vault vault, Vault.Call refused) {
-        return new Picture(vault, refused).draw();
+    /** The picture when these calls were made too, which throw. */
+    static String after(Vault vault, List<Vault.Call> refused) {
+        return new Picture(vault, refused, refused.size()).draw();
     }
 
     private String draw() {
@@ -57,10 +63,9 @@ final class Picture {
 
     private void renew() {
         asked = model.again();
-        // The same room with and without the refused call, so that both pictures ask the same.
-        room = Vault.MOST_CALLS - model.changeCount() - 1;
-        if (refused != null) {
-            tryOut(refused);
+        room = roomLeft;
+        for (Vault.Call call : refused) {
+            tryOut(call);
         }
     }
 

@@ -1,5 +1,3 @@
-import java.lang.reflect.InvocationTargetException;
-import java.lang.reflect.Method;
 import java.util.ArrayList;
 import java.util.Arrays;
 import java.util.List;
@@ -46,7 +44,7 @@ public final class RandomRunsTest {
         words = 2 + random.nextInt(3);
     }
 
-    public static void main(String[] args) throws Exception {
+    public static void main(String[] args) {
         Checks checks = new Checks();
         for (int run = 0; run < RUNS; run++) {
             new RandomRunsTest(run).run(checks, run);
@@ -54,7 +52,7 @@ public final class RandomRunsTest {
         Rows.end(checks);
     }
 
-    private void run(Checks checks, int run) throws Exception {
+    private void run(Checks checks, int run) {
         begin(checks, run);
         while (vault.callsLeft() > 0) {
             String[] parts = drawn.get(random.nextInt(drawn.size()));
@@ -70,7 +68,7 @@ public final class RandomRunsTest {
     }
 
     /** Gives most versions of a sheet tasks, so that there is something to say. */
-    private void begin(Checks checks, int run) throws Exception {
+    private void begin(Checks checks, int run) {
         int most = random.nextInt(2);
         boolean wide = random.nextInt(4) != 0;
         for (int group = 0; group < 4 && wide; group++) {
@@ -89,7 +87,7 @@ public final class RandomRunsTest {
     }
 
     /** Asks new objects in the same state, as the first one has had its calls. */
-    private void sameAtTheEnd(Checks checks, int run) throws Exception {
+    private void sameAtTheEnd(Checks checks, int run) {
         for (int sheet = 0; sheet < plain.sheets(); sheet++) {
             for (int pupil = 0; pupil < 12; pupil++) {
                 for (String name : new String[] {"answer", "mark", "due", "told", "fingerprints"}) {
@@ -110,38 +108,23 @@ public final class RandomRunsTest {
         }
     }
 
-    private void sameAgain(Checks checks, int run, String name, int... args) throws Exception {
+    private void sameAgain(Checks checks, int run, String name, int... args) {
         if (asked == null || asked.callsLeft() == 0) {
             asked = vault.again();
         }
         same(asked, checks, run, name, args);
     }
 
-    private boolean same(Checks checks, int run, String name, int... args) throws Exception {
+    private boolean same(Checks checks, int run, String name, int... args) {
         return same(vault, checks, run, name, args);
     }
 
-    private boolean same(Vault its, Checks checks, int run, String name, int... args) throws Exception {
-        String got = answerOf(its, name, args);
-        String due = answerOf(plain, name, args);
+    private boolean same(Vault its, Checks checks, int run, String name, int... args) {
+        String got = CallTable.answerOf(its, name, args);
+        String due = CallTable.answerOf(plain, name, args);
         String call = "run " + run + ": " + name + Arrays.toString(args);
         checks.holds(call + " answered " + got + ", due is " + due, got.equals(due));
         return got.equals(due);
-    }
-
-    private static String answerOf(Object object, String name, int[] args) throws Exception {
-        Class<?>[] types = new Class<?>[args.length];
-        Object[] values = new Object[args.length];
-        for (int place = 0; place < args.length; place++) {
-            types[place] = int.class;
-            values[place] = args[place];
-        }
-        Method method = object.getClass().getDeclaredMethod(name, types);
-        try {
-            return String.valueOf(method.invoke(object, values));
-        } catch (InvocationTargetException e) {
-            return e.getCause().getClass().getName();
-        }
     }
 
     /** Mostly what is there, now and then what is at an edge or beyond it. */
