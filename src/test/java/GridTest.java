@@ -29,10 +29,10 @@ public final class GridTest {
         "setChoice 1 0 4 1 0", "setChoice 1 0 4 1 0", "drop 1 0 0", "fold 0 5", "setWords 2 0 2 3 2",
         "setNumber 2 0 4 2 9 9", "drop 2 0 3", "setChoice 3 0 0 1 1", "setChoice 3 0 0 1 1", "setChoice 3 0 0 1 1",
         "setChoice 0 0 0 1 1", "setChoice 0 0 0 1 1", "adopt 0 0 4", "open 0 0", "open 3 0", "open 4 0", "open 11 0",
-        "say 0 0 2 1", "say 3 0 2 1", "hand 0 0", "setQuota 1 4",
+        "say 0 0 2 1", "say 3 0 2 1", "hand 0 0", "setQuota 1 3",
     };
 
-    /** Two sheets, marks, a pair, a class that is closed, mends told to it, and quotas below what classes use. */
+    /** Two sheets, marks, pairs, a class that is closed, mends told to it, and quotas below what classes use. */
     private static final String[] DAY = {
         "addSheet", "addSheet", "setWords 0 0 0 10 1", "setNumber 0 0 1 5 2 1", "setChoice 0 0 2 3 1", "adopt 1 0 3",
         "adopt 2 0 3", "adopt 3 0 2", "setChoice 1 0 3 4 0", "drop 2 0 0", "adopt 2 0 3", "open 0 0", "open 1 0",
@@ -41,7 +41,7 @@ public final class GridTest {
         "say 4 0 0 31", "say 4 0 0 31", "say 4 0 0 31", "say 4 0 0 31", "say 4 0 0 31", "say 4 0 0 31", "say 4 0 0 31",
         "say 4 0 0 31", "say 4 0 0 31", "say 4 0 0 31", "say 4 0 0 31", "say 6 0 0 1", "say 6 0 0 2", "say 6 0 0 3",
         "say 6 0 0 1", "say 11 0 1 1", "hand 0 0", "hand 3 0", "hand 6 0", "hand 11 0", "close 2 0",
-        "mendWords 0 1 0 2", "mendWords 0 3 0 97", "mendNumber 0 2 1 1 0", "setQuota 1 10", "setQuota 3 1", "open 11 1",
+        "mendWords 0 1 0 9", "mendWords 0 3 0 97", "mendNumber 0 2 1 1 0", "setQuota 1 10", "setQuota 3 1", "open 11 1",
     };
 
     private final Checks checks;
