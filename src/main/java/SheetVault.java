@@ -1096,19 +1096,9 @@ public final class SheetVault {
 
         int commonPrints(Answer other) {
             int common = 0;
-            int place = 0;
-            int otherPlace = 0;
-            while (place < printCount && otherPlace < other.printCount) {
-                int print = prints[place];
-                int otherPrint = other.prints[otherPlace];
-                if (print == otherPrint) {
+            for (int place = 0; place < printCount; place++) {
+                if (other.hasPrint(prints[place])) {
                     common++;
-                }
-                if (print <= otherPrint) {
-                    place++;
-                }
-                if (otherPrint <= print) {
-                    otherPlace++;
                 }
             }
             return common;
