@@ -614,7 +614,7 @@ public final class SheetVault {
     /** How many words a row has ahead of its first word of 0. */
     private static int rowLength(int row) {
         int length = 0;
-        while (length < MOST_RULE_WORDS && wordAt(row, length) != 0) {
+        for (int rest = row; length < MOST_RULE_WORDS && (rest & MOST_WORD) != 0; rest >>>= WORD_BITS) {
             length++;
         }
         return length;
@@ -740,7 +740,7 @@ public final class SheetVault {
         return common;
     }
 
-    // ---- storage
+    // ---- quotas
 
     private static boolean isClass(int group) {
         return group >= 0 && group < CLASSES;

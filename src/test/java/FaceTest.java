@@ -2,11 +2,17 @@ import java.lang.reflect.Constructor;
 import java.lang.reflect.Field;
 import java.lang.reflect.Method;
 import java.lang.reflect.Modifier;
+import java.nio.file.Files;
+import java.nio.file.Path;
 import java.util.Set;
 import java.util.TreeSet;
+import java.util.regex.Matcher;
+import java.util.regex.Pattern;
 
 /** The public face: every constant, constructor and method of the document, and nothing else that can be seen. */
 public final class FaceTest {
+    private static final Path DOCUMENT = Path.of("../shared/DOC.md");
+    private static final Path SOURCE = Path.of("src/main/java/SheetVault.java");
     /** Name, how many ints it takes, and the exceptions: b bounds, a argument, s state. */
     private static final String[] METHODS = {
         "addSheet 0 s", "setNumber 6 bas", "setChoice 5 bas", "setWords 5 bas", "drop 3 bs", "adopt 3 b", "fold 2 bs",
@@ -24,6 +30,10 @@ public final class FaceTest {
         Checks checks = new Checks();
         methods(checks);
         constants(checks);
+        String document = Files.readString(DOCUMENT);
+        String source = Files.readString(SOURCE).replaceAll("\\s+", " ");
+        code(checks, document, source);
+        headings(checks, document, source);
         int type = SheetVault.class.getModifiers();
         checks.holds("the class is public and final", Modifier.isPublic(type) && Modifier.isFinal(type));
         Constructor<?>[] constructors = SheetVault.class.getDeclaredConstructors();
@@ -90,5 +100,52 @@ public final class FaceTest {
             }
         }
         checks.holds("the constants are " + seen + ", due are " + due, seen.equals(due));
+    }
+
+    /** The code of the document stands in the class: that of the face in its order, and that of each promise. */
+    private static void code(Checks checks, String document, String source) {
+        Matcher block = Pattern.compile("(?s)```java(.*?)```").matcher(document);
+        checks.holds("the document tells the face", block.find());
+        int place = 0;
+        int found = 0;
+        for (String line : block.group(1).split("\n")) {
+            String its = line.strip().replaceAll(" \\{$|;$", "");
+            if (its.isEmpty() || its.equals("}")) {
+                continue;
+            }
+            int next = source.indexOf(its + (line.contains("=") ? ";" : " {"), place);
+            checks.holds("it is not in the class, or not in its place: " + its, next >= 0);
+            place = Math.max(place, next);
+            found++;
+        }
+        checks.is("lines of the face", found, 1 + 3 + 1 + METHODS.length);
+        Matcher promise = Pattern.compile("(?m)^## Promise \\d+: .*\\s+`([^`]*)`:").matcher(document);
+        int promises = 0;
+        while (promise.find()) {
+            checks.holds("it is not in the class: " + promise.group(1),
+                    source.contains("public " + promise.group(1) + " {"));
+            promises++;
+        }
+        checks.is("code of promises", promises, 1 + METHODS.length);
+    }
+
+    /** "Ahead of the calls .. the interface says ..": so it does, once, and those calls stand behind it in this order. */
+    private static void headings(Checks checks, String document, String source) {
+        Matcher heading = Pattern.compile("(?m)^Ahead of the calls (.*) the interface says: (---- .*)\\.$")
+                .matcher(document);
+        int calls = 0;
+        while (heading.find()) {
+            String[] parts = source.split(Pattern.quote("// " + heading.group(2) + " "), -1);
+            checks.is("how often it says " + heading.group(2), parts.length - 1, 1);
+            String behind = parts[parts.length - 1].split("// ---- ")[0];
+            StringBuilder names = new StringBuilder();
+            Matcher method = Pattern.compile("public \\w+ (\\w+)\\(").matcher(behind);
+            while (method.find()) {
+                names.append(names.length() == 0 ? "" : ", ").append('`').append(method.group(1)).append('`');
+                calls++;
+            }
+            checks.holds("behind " + heading.group(2) + " stand " + names, names.toString().equals(heading.group(1)));
+        }
+        checks.is("calls behind headings", calls, METHODS.length);
     }
 }

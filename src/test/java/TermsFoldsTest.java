@@ -12,7 +12,9 @@ public final class TermsFoldsTest {
         inItsSheetAlone(checks);
         withoutChild(checks);
         theParentOfTheChild(checks);
+        childrenOfEachNumber(checks);
         allEntriesForOtherTasks(checks);
+        entriesOfEachTask(checks);
         theOtherEntriesAreGone(checks);
         dropsAreEntries(checks);
         howMuchLess(checks);
@@ -119,6 +121,50 @@ public final class TermsFoldsTest {
                 checks.state(x, "with so many children: " + children, v -> v.fold(0, 1));
             }
         }
+    }
+
+    /** The only child, or one of two, is the version 2, or 3, and so on to the version 15. */
+    private static void childrenOfEachNumber(Checks checks) {
+        for (int each = 2; each < 16; each++) {
+            int child = each;
+            Vault x = row(1);
+            for (int version = 2; version < child; version++) {
+                x.setChoice(3, 0, 1, 1, 1);
+            }
+            x.adopt(1, 0, 1);
+            checks.is("the child", x.setChoice(1, 0, 2, 9, 1), child);
+            x.adopt(0, 0, 0);
+            Vault y = x.again();
+            checks.is("fold with the child " + child, x.fold(0, 1), 0);
+            checks.is("its parent", x.parent(0, child), 0);
+            checks.is("what it has got", x.toldIn(0, child, 0), child);
+            checks.is("points of both", x.points(0, child), 10);
+            uses(checks, x, 0, 2, 0, child - 2);
+            if (child == 15) {
+                continue;
+            }
+            y.adopt(2, 0, 1);
+            for (int version = child + 1; version < 16; version++) {
+                y.setChoice(2, 0, 3, 1, 1);
+                y.adopt(2, 0, 0);
+            }
+            checks.state(y, "fold with the children " + child + " and " + (child + 1), v -> v.fold(0, 1));
+        }
+        Vault x = row(1);
+        for (int version = 2; version < 15; version++) {
+            x.setChoice(3, 0, 1, 1, 1);
+        }
+        Vault y = x.again();
+        y.adopt(3, 0, 1);
+        y.setChoice(3, 0, 1, 1, 1);
+        checks.state(y, "fold of a head with the child 15", v -> v.fold(0, 1));
+        y.adopt(0, 0, 0);
+        checks.is("fold with the child 15", y.fold(0, 1), 0);
+        x.adopt(0, 0, 14);
+        x.setChoice(0, 0, 1, 1, 1);
+        x.adopt(3, 0, 0);
+        checks.is("fold of 14 with the child 15", x.fold(0, 14), 1);
+        checks.is("the parent of 15", x.parent(0, 15), 13);
     }
 
     private static void childrenOfFoldedOnes(Checks checks) {
@@ -233,6 +279,42 @@ public final class TermsFoldsTest {
         checks.is("mend of what came along", x.mendNumber(0, 6, 3, 6, 0), 1);
         checks.is("mend of words that came along", x.mendWords(0, 6, 2, 1), 0);
         uses(checks, x, 7 + 6, 0, 0, 0);
+    }
+
+    /** An entry of each kind for each task goes to a child that has an entry for another task, of either class. */
+    private static void entriesOfEachTask(Checks checks) {
+        int[] takes = {2, 1, 3, 1};
+        for (int task = 0; task < 5; task++) {
+            for (int kind = 0; kind < 4; kind++) {
+                for (int group = 0; group < 2; group++) {
+                    Vault x = Rows.withSheets(1);
+                    int before = setEach(x, task, kind);
+                    x.adopt(group, 0, before);
+                    int other = (task + 1) % 5;
+                    int child = x.setChoice(group, 0, other, 4, 1);
+                    x.adopt(0, 0, child);
+                    checks.is("fold", x.fold(0, before), 0);
+                    checks.is("toldIn", x.toldIn(0, child, task), child);
+                    checks.is("kindOf", x.kindOf(0, child, task), kind < 3 ? kind : NONE);
+                    checks.is("kindOf of its own", x.kindOf(0, child, other), SheetVault.CHOICE);
+                    checks.is("points", x.points(0, child), kind < 3 ? 7 : 4);
+                    int first = kind < 3 ? 0 : 1;
+                    uses(checks, x, first + (group == 0 ? takes[kind] + 1 : 0), group == 0 ? 0 : takes[kind] + 1);
+                }
+            }
+        }
+    }
+
+    /** The class 0 makes a version with an entry of this kind, or one that drops. */
+    private static int setEach(Vault x, int task, int kind) {
+        switch (kind) {
+            case SheetVault.NUMBER: return x.setNumber(0, 0, task, 3, 1, 1);
+            case SheetVault.CHOICE: return x.setChoice(0, 0, task, 3, 1);
+            case SheetVault.WORDS: return x.setWords(0, 0, task, 3, Rows.row(1, 2, 3));
+            default:
+                x.setChoice(0, 0, task, 3, 1);
+                return x.drop(0, 0, task);
+        }
     }
 
     /** "the other entries are gone". */

@@ -11,10 +11,13 @@ public final class TermsPrintsTest {
         anyNumber(checks);
         wordsTasksAlone(checks);
         notThoseOfTheRule(checks);
+        otherBitsOfTheRule(checks);
         theRuleOfThisTask(checks);
         theRuleAsItIsNow(checks);
         rulesOfParents(checks);
         eachNumberOnce(checks);
+        pairsByNumbersThatCountOnce(checks);
+        pairsOfAFullAnswer(checks);
         handedIn(checks);
         markAboveZero(checks);
         mendsThatMoveTheIndex(checks);
@@ -177,6 +180,28 @@ public final class TermsPrintsTest {
         indexed(checks, "one word again and again", same, 0);
     }
 
+    /** What stands in the bits of the row, but not at the places of its words, is not in the rule. */
+    private static void otherBitsOfTheRule(Checks checks) {
+        int[][] rules = {{21, 11, 26, 13, 22, 9}, {27, 31, 14, 29, 7, 30}, {19, 13, 22, 11, 25}};
+        for (int[] rule : rules) {
+            int row = Rows.row(rule);
+            for (int bit = 1; bit < 32; bit++) {
+                int first = row >>> bit & 31;
+                int second = row >>> bit + 5 & 31;
+                int third = row >>> bit + 10 & 31;
+                if (bit % 5 == 0 && bit < 30 || first * second * third == 0) {
+                    continue;
+                }
+                Vault x = withRule(rule);
+                Rows.handWords(x, 0, 0, 0, first, second, third, rule[0]);
+                Rows.handWords(x, 1, 0, 0, first, second, third, rule[0]);
+                indexed(checks, "the bits from " + bit, x, 0, Rows.print(first, second, third),
+                        Rows.print(second, third, rule[0]));
+                likeAnew(checks, x, 1);
+            }
+        }
+    }
+
     /** "in the rule of this task". */
     private static void theRuleOfThisTask(Checks checks) {
         Vault x = Rows.withSheets(1);
@@ -313,6 +338,73 @@ public final class TermsPrintsTest {
         Rows.sayAll(y, 0, 0, 3, 1, 2, 3);
         y.hand(0, 0);
         indexed(checks, "the same for two tasks", y, 0, Rows.print(1, 2, 3));
+    }
+
+    /** One number in common is no pair, however often it was said. */
+    private static void pairsByNumbersThatCountOnce(Checks checks) {
+        int[][] said = {{1, 1, 1, 1}, {1, 1, 1, 1, 1, 1, 1, 1, 1, 1, 1, 1}, {1, 1, 1}, {1, 1, 1, 2}};
+        for (int[] one : said) {
+            for (int[] two : said) {
+                Vault x = withRule(1);
+                Rows.handWords(x, 0, 0, 0, one);
+                Rows.handWords(x, 3, 0, 0, two);
+                boolean isPair = one == two && one.length == 4 && one[3] == 2;
+                checks.is("likeness", x.likeness(0, 0, 3), 100);
+                likeAnew(checks, x, isPair ? 1 : 0);
+            }
+        }
+        // Two in common of two, and two of four: the first one's numbers were said three times each.
+        Vault y = withRule(1);
+        Rows.handWords(y, 0, 0, 0, 1, 2, 1, 2, 1, 2, 1, 2);
+        Rows.handWords(y, 3, 0, 0, 1, 2, 1, 2, 3, 4);
+        Rows.handWords(y, 6, 0, 0, 1, 2, 3, 1, 2, 3, 1, 2);
+        Rows.handWords(y, 9, 0, 0, 1, 2, 3, 4, 5, 6, 1, 2, 3);
+        checks.is("two of two", y.likeness(0, 0, 3), 100);
+        checks.is("one of three", y.likeness(0, 6, 9), 33);
+        likeAnew(checks, y, 1);
+        Vault z = Rows.withSheets(1);
+        z.setWords(0, 0, 1, 10, 1);
+        z.setWords(0, 0, 4, 10, 1);
+        for (int pupil = 0; pupil < 2; pupil++) {
+            z.open(pupil, 0);
+            Rows.sayAll(z, pupil, 0, 1, 1, 2, 3);
+            Rows.sayAll(z, pupil, 0, 4, 1, 2, 3);
+            z.hand(pupil, 0);
+        }
+        likeAnew(checks, z, 0);
+    }
+
+    /** 50 fingerprints, and the last two of each task make a pair with another answer. */
+    private static void pairsOfAFullAnswer(Checks checks) {
+        Vault x = Rows.withSheets(1);
+        for (int task = 0; task < 5; task++) {
+            x.setWords(0, 0, task, 10, 1 + task);
+        }
+        x.adopt(1, 0, 5);
+        x.open(0, 0);
+        for (int task = 0; task < 5; task++) {
+            for (int place = 0; place < 12; place++) {
+                x.say(0, 0, task, wordOfAFullAnswer(task, place));
+            }
+        }
+        checks.is("hand", x.hand(0, 0), 50);
+        checks.is("fingerprints", x.fingerprints(0, 0), 50);
+        for (int task = 0; task < 5; task++) {
+            int pupil = 1 + task;
+            x.open(pupil, 0);
+            x.say(pupil, 0, (task + 1) % 5, 1 + (task + 1) % 5);
+            for (int place = 8; place < 12; place++) {
+                x.say(pupil, 0, task, wordOfAFullAnswer(task, place));
+            }
+            x.hand(pupil, 0);
+            checks.is("fingerprints", x.fingerprints(pupil, 0), 2);
+            checks.is("likeness", x.likeness(0, 0, pupil), 100);
+            likeAnew(checks, x, pupil);
+        }
+    }
+
+    private static int wordOfAFullAnswer(int task, int place) {
+        return 1 + (place * (task + 1) + task) % 31;
     }
 
     /** "An answer is in the index of its sheet if it was handed in". */
