@@ -129,7 +129,7 @@ public final class FaceTest {
         checks.is("code of promises", promises, 1 + METHODS.length);
     }
 
-    /** "Ahead of the calls .. the interface says ..": so it does, once, and those calls stand behind it in this order. */
+    /** "Ahead of the calls .. the interface says ..": so it does, once, and those calls stand behind it in order. */
     private static void headings(Checks checks, String document, String source) {
         Matcher heading = Pattern.compile("(?m)^Ahead of the calls (.*) the interface says: (---- .*)\\.$")
                 .matcher(document);

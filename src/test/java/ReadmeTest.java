@@ -10,7 +10,8 @@ import java.util.regex.Pattern;
 public final class ReadmeTest {
     private static final Path README = Path.of("README.md");
     private static final String FIRST = "SheetVault vault = new SheetVault();";
-    private static final Pattern CALL = Pattern.compile("vault\\.(\\w+)\\(([-\\d, ]*)\\); +// (throws (\\w+)|-?\\d+): .+");
+    private static final Pattern CALL = Pattern.compile(
+            "vault\\.(\\w+)\\(([-\\d, ]*)\\); +// (throws (\\w+)|-?\\d+): .+");
 
     public static void main(String[] args) throws Exception {
         Checks checks = new Checks();
